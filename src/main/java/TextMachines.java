@@ -615,6 +615,7 @@ public final class TextMachines {
 
         private final int letters;
         private final long[] leads = new long[(MOST_STATES + 1) * MOST_LETTERS];
+        /** The states that go along with each one wherever it is come to. */
         private final long[] company = new long[MOST_STATES];
         private final long[] closer = new long[MOST_STATES];
         private long start = 0L;
@@ -790,6 +791,7 @@ public final class TextMachines {
         private static final int MISSED = MOST_IN_TEXT + 1;
 
         private final Row text;
+        /** How many letters of the text those met still end with, if not all of them. */
         private final int[] fallback = new int[MOST_IN_TEXT + 1];
         private int op = IS;
 
@@ -797,11 +799,9 @@ public final class TextMachines {
             this.text = text;
         }
 
-        /** The text is to be looked for as op says. */
+        /** The text is to be looked for as told; none or one of its letters fall back to none. */
         void look(int how) {
             op = how;
-            fallback[0] = 0;
-            fallback[1] = 0;
             for (int met = 1; met < text.size; met++) {
                 fallback[met + 1] = metAnywhere(fallback[met], text.at(met));
             }
@@ -994,7 +994,8 @@ public final class TextMachines {
 
         /** Whether the least machine has no more than 40 states; only then it is laid down. */
         boolean shrinkTo(Machine least) {
-            int known = splitByEnd();
+            splitByEnd();
+            int known = 0;
             for (int round = 0; round <= MOST_STATES; round++) {
                 int now = splitByLeads();
                 if (now == NONE) {
@@ -1009,13 +1010,10 @@ public final class TextMachines {
             return true;
         }
 
-        private int splitByEnd() {
-            int known = 1;
+        private void splitByEnd() {
             for (int p = 0; p < size; p++) {
-                kinds[p] = last[p] == last[0] ? 0 : 1;
-                known = Math.max(known, kinds[p] + 1);
+                kinds[p] = last[p] ? 1 : 0;
             }
-            return known;
         }
 
         /** How many kinds there are then; NONE, if they are too many. */

@@ -40,6 +40,8 @@ public final class PromisesTest {
         p28Longest();
         p29Of();
         termsNumbering();
+        termsSame();
+        termsMostStates();
         termsFullShelf();
         termsLargeBeforeFull();
         termsRefusalsChangeNothing();
@@ -481,7 +483,32 @@ public final class PromisesTest {
         due("op -1", x.when(-1, a, true), BAD);
         due("op 4", x.when(4, a, true), BAD);
         due("bad a", x.when(0, x.of(0), true), BAD);
+        whenOverlaps();
         whenSizes();
+    }
+
+    /** Where a text that is met in part goes on within itself. */
+    private static void whenOverlaps() {
+        TextMachines x = new TextMachines(2);
+        int all = x.make(1);
+        String[] parts = {"0100", "00100", "0101001", "0000"};
+        String[] in = {"010100", "00100100", "01010101001", "0010000"};
+        String[] out = {"0101010", "001010010", "010100010", "0001000"};
+        for (int i = 0; i < parts.length; i++) {
+            collect(x, parts[i]);
+            int end = x.when(2, all, true);
+            int any = x.when(3, all, true);
+            due("COLLECTED alone, behind when", x.make(0), x.when(0, all, true));
+            collect(x, in[i]);
+            due(in[i] + " ends with " + parts[i], x.has(end), 1);
+            due(in[i] + " has " + parts[i], x.has(any), 1);
+            x.add(1);
+            due(in[i] + "1 ends with " + parts[i], x.has(end), 0);
+            due(in[i] + "1 has " + parts[i], x.has(any), 1);
+            collect(x, out[i]);
+            due(out[i] + " ends with " + parts[i], x.has(end), 0);
+            due(out[i] + " has " + parts[i], x.has(any), 0);
+        }
     }
 
     private static void whenSizes() {
@@ -796,6 +823,64 @@ public final class PromisesTest {
         }
     }
 
+    /** Machines that are alike but for one step or one end are two. */
+    private static void termsSame() {
+        TextMachines x = new TextMachines(2);
+        int all = x.make(1);
+        collect(x, "1");
+        int withOne = x.when(3, all, true);
+        x.wipe();
+        int notEmpty = x.when(0, all, false);
+        due("states", x.states(withOne), x.states(notEmpty));
+        due("differ in a step", x.differ(withOne, notEmpty), 1);
+        due("of(0)", x.of(0), 3);
+        int odd = x.join(some(x, "0", "1"), ring(x, 2));
+        Check.holds("differ in ends", odd != ring(x, 2) && x.not(odd) == ring(x, 2));
+    }
+
+    /** Every act on machines of 40 states. */
+    private static void termsMostStates() {
+        TextMachines x = new TextMachines(2);
+        int a = x.pair(0, ring(x, 5), ring(x, 8));
+        due("states", x.states(a), 40);
+        int none = x.make(2);
+        int all = x.make(1);
+        int empty = one(x, "");
+        due("pair", x.pair(0, a, a), a);
+        due("not", x.not(x.not(a)), a);
+        due("join", x.join(a, a), a);
+        due("join with no letters", x.join(a, empty), a);
+        due("CAME: each state, with the end of the other at 0 alone", x.of(2), 41);
+        due("many", x.many(a), a);
+        due("CAME: the beginning, and each state by itself", x.of(2), 41);
+        due("turn", x.turn(a), a);
+        due("CAME", x.of(2), 40);
+        due("become", x.become(a, 0, 0), a);
+        due("drop", x.drop(a, 1), x.many(one(x, "0")));
+        due("cut", x.cut(a, 40), a);
+        due("trim", x.trim(a, 80), a);
+        due("cut 39", x.cut(a, 39), x.trim(a, 79));
+        due("part 0", x.part(a, 0), all);
+        due("part 1", x.part(a, 1), all);
+        due("part 2", x.part(a, 2), all);
+        due("widen 40", x.widen(a, 40), a);
+        due("widen 38", x.widen(a, 38), a);
+        due("within", x.within(a, none), 0);
+        due("differ", x.differ(a, empty), 40);
+        due("longest", x.longest(a), ENDLESS);
+        due("count 39", x.count(a, 39), 0);
+        due("count 40", x.count(a, 40), 1L << 40);
+        due("pick", x.pick(a, 1 << 30), 40);
+        due("told(10), as 2 to the 30 less 1 is written", x.told(10), 1);
+        due("told(9)", x.told(9), 0);
+        due("next", x.next(a, 39, 1), 0);
+        due("end", x.end(a, 39), 0);
+        due("no state 40", x.end(a, 40), BAD);
+        due("no state 40", x.next(a, 40, 0), BAD);
+        collect(x, "0".repeat(80));
+        due("has", x.has(a), 1);
+    }
+
     private static void termsFullShelf() {
         TextMachines x = new TextMachines(2);
         due("none", x.make(2), 0);
@@ -851,6 +936,11 @@ public final class PromisesTest {
         due("when: LARGE ahead of FULL", x.when(3, fifth, true), LARGE);
         due("numerals: LARGE ahead of FULL", x.numerals(0, 1000000000), LARGE);
         due("make(2): FULL", x.make(2), FULL);
+        collect(x, "0");
+        int all = x.make(1);
+        due("when: FULL", x.when(1, all, true), FULL);
+        due("CAME of when, FULL", x.of(2), 3);
+        due("when not: FULL", x.when(1, all, false), FULL);
     }
 
     private static void termsRefusalsChangeNothing() {
