@@ -52,42 +52,11 @@ public final class PromisesTest {
         Check.due(call, got, want);
     }
 
-    /** COLLECTED becomes the text, written in digits. */
-    private static void collect(TextMachines x, String text) {
-        x.wipe();
-        for (char c : text.toCharArray()) {
-            x.add(c - '0');
-        }
-    }
-
-    /** The machine of one text; COLLECTED is that text then. */
-    private static int one(TextMachines x, String text) {
-        collect(x, text);
-        return x.make(0);
-    }
-
-    /** The machine of some texts; COLLECTED is the last of them then. */
-    private static int some(TextMachines x, String... texts) {
-        int a = x.make(2);
-        for (String text : texts) {
-            a = x.pair(1, a, one(x, text));
-        }
-        return a;
-    }
-
-    private static String toldText(TextMachines x) {
-        StringBuilder text = new StringBuilder();
-        for (int i = 0; x.told(i) != NONE; i++) {
-            text.append(x.told(i));
-        }
-        return text.toString();
-    }
-
     /** The first texts of a machine in THE ORDER, up to ten: "," alone is the text without letters. */
     private static String texts(TextMachines x, int a) {
         StringBuilder all = new StringBuilder();
         for (int i = 0; i < 10 && x.pick(a, i) >= 0; i++) {
-            all.append(toldText(x)).append(',');
+            all.append(Given.toldText(x)).append(',');
         }
         return all.toString();
     }
@@ -116,7 +85,7 @@ public final class PromisesTest {
     private static void p2Clear() {
         TextMachines x = new TextMachines(3);
         due("clear of nothing", x.clear(), 0);
-        int a = one(x, "01");
+        int a = Given.one(x, "01");
         x.many(a);
         x.pick(a, 0);
         Check.holds("CAME is there before clear", x.of(2) > 0);
@@ -151,7 +120,7 @@ public final class PromisesTest {
     private static void p4Wipe() {
         TextMachines x = new TextMachines(2);
         due("wipe of nothing", x.wipe(), 0);
-        collect(x, "0110");
+        Given.collect(x, "0110");
         due("wipe()", x.wipe(), 4);
         due("of(1)", x.of(1), 0);
         due("wipe again", x.wipe(), 0);
@@ -174,7 +143,7 @@ public final class PromisesTest {
         due("make(1) again", x.make(1), 1);
         due("make(2) again", x.make(2), 2);
         due("make(0) again", x.make(0), 0);
-        collect(x, "01010101010101010101010101010101010101");
+        Given.collect(x, "01010101010101010101010101010101010101");
         due("of(1)", x.of(1), 38);
         due("make(0) of 38 letters", x.make(0), 3);
         due("states of 38 letters", x.states(3), 40);
@@ -193,8 +162,8 @@ public final class PromisesTest {
 
     private static void p6Pair() {
         TextMachines x = new TextMachines(2);
-        int a = some(x, "0", "01", "11");
-        int b = some(x, "01", "11", "110", "");
+        int a = Given.some(x, "0", "01", "11");
+        int b = Given.some(x, "01", "11", "110", "");
         dueTexts("both", x, x.pair(0, a, b), "01,11,");
         dueTexts("one at least", x, x.pair(1, a, b), ",0,01,11,110,");
         dueTexts("a and not b", x, x.pair(2, a, b), "0,");
@@ -211,9 +180,9 @@ public final class PromisesTest {
         due("CAME after BAD", x.of(2), x.states(a));
         // lengths that divide by 13 and by 14: 182 places; by 14 and by 15: 210
         TextMachines y = new TextMachines(2);
-        int ring13 = ring(y, 13);
-        int ring14 = ring(y, 14);
-        int ring15 = ring(y, 15);
+        int ring13 = Given.ring(y, 13);
+        int ring14 = Given.ring(y, 14);
+        int ring15 = Given.ring(y, 15);
         due("states of 13", y.states(ring13), 13);
         int before = y.of(0);
         due("182 places, as many states", y.pair(0, ring13, ring14), LARGE);
@@ -227,13 +196,13 @@ public final class PromisesTest {
     /** 200 places and 201, 40 states and 41. */
     private static void pairLimits() {
         TextMachines x = new TextMachines(2);
-        int ring40 = x.pair(0, ring(x, 5), ring(x, 8));
+        int ring40 = x.pair(0, Given.ring(x, 5), Given.ring(x, 8));
         due("40 places", x.of(2), 40);
         due("40 states", x.states(ring40), 40);
-        int empty = one(x, "");
+        int empty = Given.one(x, "");
         due("41 states", x.pair(2, ring40, empty), LARGE);
         due("41 places", x.of(2), 41);
-        int ring25 = ring(x, 25);
+        int ring25 = Given.ring(x, 25);
         // lengths 40, 80, .. and 1, 26, ..: none has both, as they leave 0 and 1 by 5
         due("200 places", x.pair(0, ring40, x.cut(ring25, 24)), x.make(2));
         x.pair(0, ring40, x.cut(ring25, 24));
@@ -245,7 +214,7 @@ public final class PromisesTest {
 
     private static void p7Not() {
         TextMachines x = new TextMachines(2);
-        int a = some(x, "", "1");
+        int a = Given.some(x, "", "1");
         x.many(a);
         int n = x.not(a);
         due("CAME of not", x.of(2), 0);
@@ -258,11 +227,11 @@ public final class PromisesTest {
 
     private static void p8Join() {
         TextMachines x = new TextMachines(2);
-        int a = some(x, "", "0", "01");
-        int b = some(x, "1", "11");
+        int a = Given.some(x, "", "0", "01");
+        int b = Given.some(x, "1", "11");
         dueTexts("joined", x, x.join(a, b), "1,01,11,011,0111,");
         int none = x.make(2);
-        int empty = one(x, "");
+        int empty = Given.one(x, "");
         due("with none", x.join(a, none), none);
         due("none with a", x.join(none, a), none);
         due("with the text without letters", x.join(a, empty), a);
@@ -276,8 +245,8 @@ public final class PromisesTest {
         x.join(none, a);
         due("CAME of none with a", x.of(2), 1);
         TextMachines y = new TextMachines(2);
-        int letter = y.pair(1, one(y, "0"), one(y, "1"));
-        int seventh = y.join(y.make(1), one(y, "0"));
+        int letter = y.pair(1, Given.one(y, "0"), Given.one(y, "1"));
+        int seventh = y.join(y.make(1), Given.one(y, "0"));
         for (int i = 0; i < 4; i++) {
             seventh = y.join(seventh, letter);
         }
@@ -290,20 +259,20 @@ public final class PromisesTest {
 
     private static void p9Many() {
         TextMachines x = new TextMachines(2);
-        int a = one(x, "01");
+        int a = Given.one(x, "01");
         int m = x.many(a);
         due("CAME", x.of(2), 6);
         dueTexts("many of 01", x, m, ",01,0101,010101,01010101,0101010101,010101010101,"
             + "01010101010101,0101010101010101,010101010101010101,");
         due("many of many", x.many(m), m);
         int none = x.make(2);
-        int empty = one(x, "");
+        int empty = Given.one(x, "");
         due("many of none", x.many(none), empty);
         due("CAME: the beginning and {0}", x.of(2), 2);
         due("many of the text without letters", x.many(empty), empty);
         due("CAME: the beginning and {1}", x.of(2), 2);
         due("many of all", x.many(x.make(1)), x.make(1));
-        int both = some(x, "0", "11");
+        int both = Given.some(x, "0", "11");
         dueTexts("many of two", x, x.many(both), ",0,00,11,000,011,110,0000,0011,0110,");
         due("many(-1)", x.many(-1), BAD);
         due("many of none such", x.many(x.of(0)), BAD);
@@ -311,7 +280,7 @@ public final class PromisesTest {
 
     private static void p10Turn() {
         TextMachines x = new TextMachines(3);
-        int a = some(x, "", "012", "20");
+        int a = Given.some(x, "", "012", "20");
         int t = x.turn(a);
         dueTexts("turned", x, t, ",02,210,");
         due("turned twice", x.turn(t), a);
@@ -322,14 +291,14 @@ public final class PromisesTest {
         due("turn of all", x.turn(all), all);
         due("CAME: {0}", x.of(2), 1);
         // "0" over 3 letters: 0 -0-> 1, else 2. Sets: {1}, by 0 {0}, by 1 {}; from {0} and {} all to {}
-        int zero = one(x, "0");
+        int zero = Given.one(x, "0");
         due("turn of one letter", x.turn(zero), zero);
         due("CAME: {1}, {0}, {}", x.of(2), 3);
         due("turn(-1)", x.turn(-1), BAD);
         due("turn of none such", x.turn(x.of(0)), BAD);
         TextMachines y = new TextMachines(2);
-        int letter = y.pair(1, one(y, "0"), one(y, "1"));
-        int late = y.join(one(y, "0"), y.make(1));
+        int letter = y.pair(1, Given.one(y, "0"), Given.one(y, "1"));
+        int late = y.join(Given.one(y, "0"), y.make(1));
         for (int i = 0; i < 6; i++) {
             late = y.join(letter, late);
         }
@@ -342,14 +311,14 @@ public final class PromisesTest {
 
     private static void p11Become() {
         TextMachines x = new TextMachines(3);
-        int a = some(x, "012", "11", "2");
+        int a = Given.some(x, "012", "11", "2");
         dueTexts("1 becomes 0", x, x.become(a, 1, 0), "2,00,002,");
         dueTexts("0 becomes 2", x, x.become(a, 0, 2), "2,11,212,");
         due("1 becomes 1", x.become(a, 1, 1), a);
         due("CAME: each state by itself", x.of(2), x.states(a));
         // "1": 0 -1-> 1, else 2. {0}, by 0 {1, 2}, by 1 {}, by 2 {2}
-        int one = one(x, "1");
-        due("1 becomes 0", x.become(one, 1, 0), one(x, "0"));
+        int one = Given.one(x, "1");
+        due("1 becomes 0", x.become(one, 1, 0), Given.one(x, "0"));
         x.become(one, 1, 0);
         due("CAME", x.of(2), 4);
         due("bad a", x.become(x.of(0), 0, 1), BAD);
@@ -362,12 +331,12 @@ public final class PromisesTest {
 
     private static void p12Drop() {
         TextMachines x = new TextMachines(3);
-        int a = some(x, "012", "11", "0110");
+        int a = Given.some(x, "012", "11", "0110");
         dueTexts("without 1", x, x.drop(a, 1), ",00,02,");
         dueTexts("without 0", x, x.drop(a, 0), "11,12,");
-        int many = x.many(one(x, "01"));
+        int many = x.many(Given.one(x, "01"));
         dueTexts("many 01 without 0", x, x.drop(many, 0), ",1,11,111,1111,11111,111111,1111111,11111111,111111111,");
-        due("all without 2", x.drop(x.make(1), 2), x.many(some(x, "0", "1")));
+        due("all without 2", x.drop(x.make(1), 2), x.many(Given.some(x, "0", "1")));
         x.drop(x.make(1), 2);
         due("CAME: {0} and {}", x.of(2), 2);
         due("bad a", x.drop(-1, 0), BAD);
@@ -377,7 +346,7 @@ public final class PromisesTest {
 
     private static void p13Cut() {
         TextMachines x = new TextMachines(2);
-        int a = some(x, "", "0", "011", "1100");
+        int a = Given.some(x, "", "0", "011", "1100");
         due("cut(a, 0)", x.cut(a, 0), a);
         dueTexts("cut 1", x, x.cut(a, 1), ",11,100,");
         dueTexts("cut 2", x, x.cut(a, 2), "1,00,");
@@ -386,7 +355,7 @@ public final class PromisesTest {
         due("cut 100", x.cut(a, 100), x.make(2));
         x.cut(a, 100);
         due("CAME: the one set", x.of(2), 1);
-        int even = x.many(x.join(some(x, "0", "1"), some(x, "0", "1")));
+        int even = x.many(x.join(Given.some(x, "0", "1"), Given.some(x, "0", "1")));
         due("cut 100 of even", x.cut(even, 100), even);
         due("cut 99 of even", x.cut(even, 99), x.not(even));
         due("cut -1", x.cut(a, -1), BAD);
@@ -396,7 +365,7 @@ public final class PromisesTest {
 
     private static void p14Trim() {
         TextMachines x = new TextMachines(2);
-        int a = some(x, "", "0", "011", "1100");
+        int a = Given.some(x, "", "0", "011", "1100");
         x.many(a);
         due("trim(a, 0)", x.trim(a, 0), a);
         due("CAME of trim", x.of(2), 0);
@@ -404,7 +373,7 @@ public final class PromisesTest {
         dueTexts("trim 2", x, x.trim(a, 2), "0,11,");
         dueTexts("trim 4", x, x.trim(a, 4), ",");
         due("trim 5", x.trim(a, 5), x.make(2));
-        int even = x.many(x.join(some(x, "0", "1"), some(x, "0", "1")));
+        int even = x.many(x.join(Given.some(x, "0", "1"), Given.some(x, "0", "1")));
         due("trim 100 of even", x.trim(even, 100), even);
         due("trim 99 of even", x.trim(even, 99), x.not(even));
         due("trim -1", x.trim(a, -1), BAD);
@@ -414,7 +383,7 @@ public final class PromisesTest {
 
     private static void p15Part() {
         TextMachines x = new TextMachines(2);
-        int a = some(x, "011", "10");
+        int a = Given.some(x, "011", "10");
         x.many(a);
         dueTexts("beginnings", x, x.part(a, 0), ",0,1,01,10,011,");
         x.many(a);
@@ -428,7 +397,7 @@ public final class PromisesTest {
             due("CAME", x.of(2), how == 0 ? 0 : 1);
         }
         // "0": 0 -0-> 1, else 2. {0,1,2}, by 0 {1,2}, by 1 {2}
-        int zero = one(x, "0");
+        int zero = Given.one(x, "0");
         x.part(zero, 1);
         due("CAME of ends of 0", x.of(2), 3);
         x.part(zero, 2);
@@ -441,13 +410,13 @@ public final class PromisesTest {
     private static void p16Widen() {
         TextMachines x = new TextMachines(2);
         // 000: states 0 .. 3 along it, 4 behind; ends: 3 alone
-        int a = one(x, "000");
+        int a = Given.one(x, "000");
         int all = x.make(1);
         // d 0: all but 3 are like: {0,1,2,s} leads by 0 to all, by 1 to {0,1,2,s}
         int w0 = x.widen(a, 0);
         due("CAME of d 0", x.of(2), 2);
         due("d 0: texts that end with 0", w0, endsWith(x, all, "0"));
-        due("d 1", x.widen(a, 1), x.join(x.many(some(x, "0", "1")), one(x, "00")));
+        due("d 1", x.widen(a, 1), x.join(x.many(Given.some(x, "0", "1")), Given.one(x, "00")));
         due("d 3 is a itself", x.widen(a, 3), a);
         due("d 40 is a itself", x.widen(a, 40), a);
         due("CAME: each state by itself", x.of(2), x.states(a));
@@ -458,17 +427,17 @@ public final class PromisesTest {
     }
 
     private static int endsWith(TextMachines x, int a, String text) {
-        collect(x, text);
+        Given.collect(x, text);
         return x.when(2, a, true);
     }
 
     private static void p17When() {
         TextMachines x = new TextMachines(2);
-        int a = some(x, "", "0", "01", "010", "101", "1");
+        int a = Given.some(x, "", "0", "01", "010", "101", "1");
         String[][] due = {{"01,", ",0,1,010,101,"}, {"01,010,", ",0,1,101,"}, {"01,101,", ",0,1,010,"},
             {"01,010,101,", ",0,1,"}};
         for (int op = 0; op <= 3; op++) {
-            collect(x, "01");
+            Given.collect(x, "01");
             dueTexts("when " + op, x, x.when(op, a, true), due[op][0]);
             dueTexts("when not " + op, x, x.when(op, a, false), due[op][1]);
         }
@@ -495,17 +464,17 @@ public final class PromisesTest {
         String[] in = {"010100", "00100100", "01010101001", "0010000"};
         String[] out = {"0101010", "001010010", "010100010", "0001000"};
         for (int i = 0; i < parts.length; i++) {
-            collect(x, parts[i]);
+            Given.collect(x, parts[i]);
             int end = x.when(2, all, true);
             int any = x.when(3, all, true);
             due("COLLECTED alone, behind when", x.make(0), x.when(0, all, true));
-            collect(x, in[i]);
+            Given.collect(x, in[i]);
             due(in[i] + " ends with " + parts[i], x.has(end), 1);
             due(in[i] + " has " + parts[i], x.has(any), 1);
             x.add(1);
             due(in[i] + "1 ends with " + parts[i], x.has(end), 0);
             due(in[i] + "1 has " + parts[i], x.has(any), 1);
-            collect(x, out[i]);
+            Given.collect(x, out[i]);
             due(out[i] + " ends with " + parts[i], x.has(end), 0);
             due(out[i] + " has " + parts[i], x.has(any), 0);
         }
@@ -514,7 +483,7 @@ public final class PromisesTest {
     private static void whenSizes() {
         TextMachines x = new TextMachines(2);
         int all = x.make(1);
-        collect(x, "0000000000" + "0000000000" + "0000000000" + "00000000");
+        Given.collect(x, "0000000000" + "0000000000" + "0000000000" + "00000000");
         int[] placesOf38 = {40, 40, 39, 39};
         for (int op = 0; op <= 3; op++) {
             Check.holds("38 letters, op " + op, x.when(op, all, true) >= 0);
@@ -537,8 +506,8 @@ public final class PromisesTest {
             due("CAME", x.of(2), 0);
         }
         TextMachines y = new TextMachines(2);
-        int wide = y.not(one(y, "01010101010101010101"));
-        collect(y, "1010101010101");
+        int wide = y.not(Given.one(y, "01010101010101010101"));
+        Given.collect(y, "1010101010101");
         int with = y.when(3, y.make(1), true);
         int want = y.pair(0, wide, with);
         int places = y.of(2);
@@ -587,7 +556,7 @@ public final class PromisesTest {
         due("states(0) of none", x.states(0), BAD);
         due("states of all", x.states(x.make(1)), 1);
         due("states of none", x.states(x.make(2)), 1);
-        due("states of 01", x.states(one(x, "01")), 4);
+        due("states of 01", x.states(Given.one(x, "01")), 4);
         due("states(-1)", x.states(-1), BAD);
         due("states(3)", x.states(3), BAD);
         due("states(max)", x.states(MAX_VALUE), BAD);
@@ -595,7 +564,7 @@ public final class PromisesTest {
 
     private static void p20Next() {
         TextMachines x = new TextMachines(2);
-        int a = one(x, "10");
+        int a = Given.one(x, "10");
         // by 0 the dead state is come to first: 1; then 2 by 1, and 3 behind it
         int[][] due = {{1, 2}, {1, 1}, {3, 1}, {1, 1}};
         for (int s = 0; s < 4; s++) {
@@ -613,7 +582,7 @@ public final class PromisesTest {
 
     private static void p21End() {
         TextMachines x = new TextMachines(2);
-        int a = one(x, "10");
+        int a = Given.one(x, "10");
         int[] due = {0, 0, 0, 1};
         for (int s = 0; s < 4; s++) {
             due("end(" + s + ")", x.end(a, s), due[s]);
@@ -628,11 +597,11 @@ public final class PromisesTest {
     private static void p22Has() {
         TextMachines x = new TextMachines(3);
         due("has(0) of none", x.has(0), BAD);
-        int a = some(x, "021", "");
+        int a = Given.some(x, "021", "");
         String[] texts = {"", "0", "02", "021", "0210", "120"};
         int[] due = {1, 0, 0, 1, 0, 0};
         for (int i = 0; i < texts.length; i++) {
-            collect(x, texts[i]);
+            Given.collect(x, texts[i]);
             due("has " + texts[i], x.has(a), due[i]);
         }
         due("COLLECTED stays", x.of(1), 3);
@@ -642,8 +611,8 @@ public final class PromisesTest {
 
     private static void p23Within() {
         TextMachines x = new TextMachines(2);
-        int a = some(x, "0", "11");
-        int b = some(x, "0", "11", "10");
+        int a = Given.some(x, "0", "11");
+        int b = Given.some(x, "0", "11", "10");
         int none = x.make(2);
         int all = x.make(1);
         due("a in b", x.within(a, b), 1);
@@ -659,43 +628,33 @@ public final class PromisesTest {
 
     private static void p24Differ() {
         TextMachines x = new TextMachines(2);
-        int a = some(x, "0", "11", "000");
-        int b = some(x, "0", "10", "01");
+        int a = Given.some(x, "0", "11", "000");
+        int b = Given.some(x, "0", "10", "01");
         due("differ", x.differ(a, b), 2);
-        Check.holds("01 is told", toldText(x).equals("01"));
+        Check.holds("01 is told", Given.toldText(x).equals("01"));
         due("the other way", x.differ(b, a), 2);
         due("with itself", x.differ(a, a), NONE);
-        Check.holds("what was told stays", toldText(x).equals("01"));
+        Check.holds("what was told stays", Given.toldText(x).equals("01"));
         due("by the text without letters", x.differ(a, x.not(a)), 0);
         due("told(0)", x.told(0), NONE);
         due("bad a", x.differ(-1, a), BAD);
         due("bad b", x.differ(a, x.of(0)), BAD);
-        int long38 = one(x, "11111111111111111111111111111111111111");
+        int long38 = Given.one(x, "11111111111111111111111111111111111111");
         due("from none", x.differ(long38, x.make(2)), 38);
         due("told(37)", x.told(37), 1);
         due("told(38)", x.told(38), NONE);
         farApart();
     }
 
-    /** The machine of texts whose lengths divide by n. */
-    private static int ring(TextMachines x, int n) {
-        int letter = x.pair(1, one(x, "0"), one(x, "1"));
-        int power = letter;
-        for (int i = 1; i < n; i++) {
-            power = x.join(power, letter);
-        }
-        return x.many(power);
-    }
-
     /** Lengths 38, 77, .. and lengths 38, 78, ..: no two machines of 39 and 40 states differ later. */
     private static void farApart() {
         TextMachines x = new TextMachines(2);
-        int ring39 = x.pair(0, ring(x, 3), ring(x, 13));
-        int ring40 = x.pair(0, ring(x, 5), ring(x, 8));
+        int ring39 = x.pair(0, Given.ring(x, 3), Given.ring(x, 13));
+        int ring40 = x.pair(0, Given.ring(x, 5), Given.ring(x, 8));
         due("states of 39", x.states(ring39), 39);
         due("states of 40", x.states(ring40), 40);
         due("far apart", x.differ(x.cut(ring39, 1), x.cut(ring40, 2)), 77);
-        Check.holds("77 times 0", toldText(x).equals("0".repeat(77)));
+        Check.holds("77 times 0", Given.toldText(x).equals("0".repeat(77)));
     }
 
     private static void p25Count() {
@@ -706,7 +665,7 @@ public final class PromisesTest {
         due("59 letters", x.count(all, 59), 1L << 59);
         due("60 letters", x.count(all, 60), 1000000000000000000L);
         due("100 letters", x.count(all, 100), 1000000000000000000L);
-        int a = some(x, "", "0", "10", "11");
+        int a = Given.some(x, "", "0", "10", "11");
         due("0", x.count(a, 0), 1);
         due("1", x.count(a, 1), 1);
         due("2", x.count(a, 2), 2);
@@ -724,23 +683,23 @@ public final class PromisesTest {
 
     private static void p26Pick() {
         TextMachines x = new TextMachines(2);
-        int a = some(x, "", "0", "10", "11", "001");
+        int a = Given.some(x, "", "0", "10", "11", "001");
         String[] due = {"", "0", "10", "11", "001"};
         for (int i = 0; i < due.length; i++) {
             due("pick " + i, x.pick(a, i), due[i].length());
-            Check.holds("told is " + due[i], toldText(x).equals(due[i]));
+            Check.holds("told is " + due[i], Given.toldText(x).equals(due[i]));
         }
         due("pick 5", x.pick(a, 5), NONE);
-        Check.holds("what was told stays", toldText(x).equals("001"));
+        Check.holds("what was told stays", Given.toldText(x).equals("001"));
         due("pick max", x.pick(a, MAX_VALUE), NONE);
         due("pick -1", x.pick(a, -1), BAD);
         due("bad a", x.pick(x.of(0), 0), BAD);
         due("pick of none", x.pick(x.make(2), 0), NONE);
         due("pick max of all", x.pick(x.make(1), MAX_VALUE), 31);
-        Check.holds("the first of 31 letters", toldText(x).equals("0".repeat(31)));
+        Check.holds("the first of 31 letters", Given.toldText(x).equals("0".repeat(31)));
         due("the one ahead", x.pick(x.make(1), MAX_VALUE - 1), 30);
-        Check.holds("the last of 30 letters", toldText(x).equals("1".repeat(30)));
-        int ones = x.many(one(x, "1"));
+        Check.holds("the last of 30 letters", Given.toldText(x).equals("1".repeat(30)));
+        int ones = x.many(Given.one(x, "1"));
         due("100 ones", x.pick(ones, 100), 100);
         due("told(99)", x.told(99), 1);
         due("told(100)", x.told(100), NONE);
@@ -751,7 +710,7 @@ public final class PromisesTest {
     private static void p27Told() {
         TextMachines x = new TextMachines(4);
         due("nothing told", x.told(0), NONE);
-        int a = one(x, "3021");
+        int a = Given.one(x, "3021");
         due("nothing told yet", x.told(0), NONE);
         x.pick(a, 0);
         int[] due = {3, 0, 2, 1};
@@ -772,9 +731,9 @@ public final class PromisesTest {
         TextMachines x = new TextMachines(2);
         due("none", x.longest(x.make(2)), NONE);
         due("all", x.longest(x.make(1)), ENDLESS);
-        due("no letters", x.longest(one(x, "")), 0);
-        due("some", x.longest(some(x, "0", "110", "11")), 3);
-        int most = one(x, "11111111111111111111111111111111111111");
+        due("no letters", x.longest(Given.one(x, "")), 0);
+        due("some", x.longest(Given.some(x, "0", "110", "11")), 3);
+        int most = Given.one(x, "11111111111111111111111111111111111111");
         due("38", x.longest(most), 38);
         due("all others", x.longest(x.not(most)), ENDLESS);
         due("many of 38", x.longest(x.many(most)), ENDLESS);
@@ -784,7 +743,7 @@ public final class PromisesTest {
 
     private static void p29Of() {
         TextMachines x = new TextMachines(3);
-        int a = one(x, "012");
+        int a = Given.one(x, "012");
         x.many(a);
         due("of(0)", x.of(0), 2);
         due("of(1)", x.of(1), 3);
@@ -807,8 +766,8 @@ public final class PromisesTest {
     /** States are numbered as they are come to, however the machine was made. */
     private static void termsNumbering() {
         TextMachines x = new TextMachines(3);
-        int[] made = {some(x, "210", "12", ""), x.turn(some(x, "011", "20")), x.many(some(x, "21", "1")),
-            x.numerals(5, 70), x.widen(some(x, "2101", "11"), 1)};
+        int[] made = {Given.some(x, "210", "12", ""), x.turn(Given.some(x, "011", "20")), x.many(Given.some(x, "21", "1")),
+            x.numerals(5, 70), x.widen(Given.some(x, "2101", "11"), 1)};
         for (int a : made) {
             int known = 1;
             for (int s = 0; s < x.states(a); s++) {
@@ -827,25 +786,25 @@ public final class PromisesTest {
     private static void termsSame() {
         TextMachines x = new TextMachines(2);
         int all = x.make(1);
-        collect(x, "1");
+        Given.collect(x, "1");
         int withOne = x.when(3, all, true);
         x.wipe();
         int notEmpty = x.when(0, all, false);
         due("states", x.states(withOne), x.states(notEmpty));
         due("differ in a step", x.differ(withOne, notEmpty), 1);
         due("of(0)", x.of(0), 3);
-        int odd = x.join(some(x, "0", "1"), ring(x, 2));
-        Check.holds("differ in ends", odd != ring(x, 2) && x.not(odd) == ring(x, 2));
+        int odd = x.join(Given.some(x, "0", "1"), Given.ring(x, 2));
+        Check.holds("differ in ends", odd != Given.ring(x, 2) && x.not(odd) == Given.ring(x, 2));
     }
 
     /** Every act on machines of 40 states. */
     private static void termsMostStates() {
         TextMachines x = new TextMachines(2);
-        int a = x.pair(0, ring(x, 5), ring(x, 8));
+        int a = x.pair(0, Given.ring(x, 5), Given.ring(x, 8));
         due("states", x.states(a), 40);
         int none = x.make(2);
         int all = x.make(1);
-        int empty = one(x, "");
+        int empty = Given.one(x, "");
         due("pair", x.pair(0, a, a), a);
         due("not", x.not(x.not(a)), a);
         due("join", x.join(a, a), a);
@@ -856,7 +815,7 @@ public final class PromisesTest {
         due("turn", x.turn(a), a);
         due("CAME", x.of(2), 40);
         due("become", x.become(a, 0, 0), a);
-        due("drop", x.drop(a, 1), x.many(one(x, "0")));
+        due("drop", x.drop(a, 1), x.many(Given.one(x, "0")));
         due("cut", x.cut(a, 40), a);
         due("trim", x.trim(a, 80), a);
         due("cut 39", x.cut(a, 39), x.trim(a, 79));
@@ -877,7 +836,7 @@ public final class PromisesTest {
         due("end", x.end(a, 39), 0);
         due("no state 40", x.end(a, 40), BAD);
         due("no state 40", x.next(a, 40, 0), BAD);
-        collect(x, "0".repeat(80));
+        Given.collect(x, "0".repeat(80));
         due("has", x.has(a), 1);
     }
 
@@ -892,7 +851,7 @@ public final class PromisesTest {
         due("one that is there", x.numerals(7, 7), 7);
         due("a 61st: numerals", x.numerals(60, 60), FULL);
         due("a 61st: make(1)", x.make(1), FULL);
-        collect(x, "00");
+        Given.collect(x, "00");
         due("a 61st: make(0)", x.make(0), FULL);
         due("a 61st: not", x.not(0), FULL);
         due("a 61st: pair", x.pair(1, 1, 2), FULL);
@@ -909,7 +868,7 @@ public final class PromisesTest {
         due("a 61st: part", x.part(1, 2), FULL);
         due("a 61st: widen", x.widen(1, 0), FULL);
         due("CAME of the widened", x.of(2), 2);
-        collect(x, "1");
+        Given.collect(x, "1");
         due("there: when", x.when(0, 1, true), 1);
         due("there: when not", x.when(0, 1, false), 0);
         due("there: cut", x.cut(9, 40), 0);
@@ -921,8 +880,8 @@ public final class PromisesTest {
 
     private static void termsLargeBeforeFull() {
         TextMachines x = new TextMachines(2);
-        int letter = x.pair(1, one(x, "0"), one(x, "1"));
-        int fifth = x.join(x.make(1), one(x, "0"));
+        int letter = x.pair(1, Given.one(x, "0"), Given.one(x, "1"));
+        int fifth = x.join(x.make(1), Given.one(x, "0"));
         for (int i = 0; i < 4; i++) {
             fifth = x.join(fifth, letter);
         }
@@ -931,12 +890,12 @@ public final class PromisesTest {
         }
         due("64 states: LARGE ahead of FULL", x.join(fifth, letter), LARGE);
         due("CAME", x.of(2), 128);
-        collect(x, "0".repeat(40));
+        Given.collect(x, "0".repeat(40));
         due("make: LARGE ahead of FULL", x.make(0), LARGE);
         due("when: LARGE ahead of FULL", x.when(3, fifth, true), LARGE);
         due("numerals: LARGE ahead of FULL", x.numerals(0, 1000000000), LARGE);
         due("make(2): FULL", x.make(2), FULL);
-        collect(x, "0");
+        Given.collect(x, "0");
         int all = x.make(1);
         due("when: FULL", x.when(1, all, true), FULL);
         due("CAME of when, FULL", x.of(2), 3);
@@ -945,7 +904,7 @@ public final class PromisesTest {
 
     private static void termsRefusalsChangeNothing() {
         TextMachines x = new TextMachines(2);
-        int a = one(x, "01");
+        int a = Given.one(x, "01");
         x.pick(a, 0);
         x.many(a);
         x.pair(9, a, a);
@@ -966,6 +925,6 @@ public final class PromisesTest {
         due("of(0)", x.of(0), 2);
         due("of(1)", x.of(1), 2);
         due("CAME", x.of(2), 6);
-        Check.holds("what was told stays", toldText(x).equals("01"));
+        Check.holds("what was told stays", Given.toldText(x).equals("01"));
     }
 }
