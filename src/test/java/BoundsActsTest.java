@@ -176,12 +176,13 @@ public final class BoundsActsTest {
 
     // ---- 7 not
 
+    /** It names no LARGE: what has 40 states has 40 still. */
     private static void notCases() {
         Check.boundary(7, "All other TEXTS.", BoundsActsTest::notOfNoneAndAll);
         Check.boundary(7, "(No PLACES.)", () -> noPlaces(x -> x.not(ZERO_ONE)));
         Check.boundary(7, BAD_WORDS, () -> Limits.machineBounds((x, a) -> x.not(a)));
         Check.boundary(7, FULL_WORDS, () -> Limits.full(2, x -> Given.one(x, "01"), (x, a) -> x.not(a)));
-        Check.boundary(7, "no LARGE: as many STATES as before", () -> Limits.fits(2, 40, 0, x -> x.not(ring40(x))));
+        Check.boundary(7, "BAD; FULL.", () -> Limits.fits(2, 40, 0, x -> x.not(ring40(x))));
     }
 
     private static void notOfNoneAndAll() {
@@ -599,14 +600,14 @@ public final class BoundsActsTest {
 
     // ---- 14 trim
 
+    /** It names no LARGE: what has 40 states has no more then. */
     private static void trimCases() {
         Check.boundary(14, "TEXTS of n LETTERS and more without their last n", BoundsActsTest::trimLengths);
         Check.boundary(14, "(0 .. 100)", BoundsActsTest::trimMost);
         Check.boundary(14, "(No PLACES.)", BoundsActsTest::trimNoPlaces);
         Check.boundary(14, BAD_WORDS, BoundsActsTest::trimBad);
         Check.boundary(14, FULL_WORDS, () -> Limits.full(2, x -> Given.one(x, "01"), (x, a) -> x.trim(a, 1)));
-        Check.boundary(14, "no LARGE: no more STATES than before",
-            () -> Limits.fits(2, 40, 0, x -> x.trim(ring40(x), 39)));
+        Check.boundary(14, "BAD; FULL.", () -> Limits.fits(2, 40, 0, x -> x.trim(ring40(x), 39)));
     }
 
     private static void trimLengths() {

@@ -436,7 +436,7 @@ public final class BoundsAsksTest {
 
     private static void pickCases() {
         Check.boundary(26, "ahead of which i (0 or more) stand in THE ORDER", BoundsAsksTest::pickFirstAndLast);
-        Check.boundary(26, "NONE: there is none such (what was TOLD stays)", BoundsAsksTest::pickNone);
+        Check.boundary(26, "NONE: there is none such", BoundsAsksTest::pickNone);
         Check.boundary(26, "or it has more than 100 (what was TOLD stays)", BoundsAsksTest::pickTooLong);
         Check.boundary(26, BAD_WORDS, BoundsAsksTest::pickBad);
     }
