@@ -644,6 +644,21 @@ public final class PromisesTest {
         due("told(37)", x.told(37), 1);
         due("told(38)", x.told(38), NONE);
         farApart();
+        backToTheFirst();
+    }
+
+    /** Letters that lead back to the first states of both are no part of the text told. */
+    private static void backToTheFirst() {
+        TextMachines x = new TextMachines(2);
+        int none = x.make(2);
+        int zerosAndOne = x.join(x.many(Given.one(x, "0")), Given.one(x, "1"));
+        due("by one letter", x.differ(zerosAndOne, none), 1);
+        Check.due("told", Given.toldText(x), "1");
+        int rowsAndTwoZeros = x.join(x.many(Given.one(x, "01")), Given.one(x, "00"));
+        due("by two letters", x.differ(none, rowsAndTwoZeros), 2);
+        Check.due("told", Given.toldText(x), "00");
+        due("one of them is shorter", x.differ(zerosAndOne, rowsAndTwoZeros), 1);
+        Check.due("told", Given.toldText(x), "1");
     }
 
     /** Lengths 38, 77, .. and lengths 38, 78, ..: no two machines of 39 and 40 states differ later. */
