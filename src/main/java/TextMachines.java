@@ -10,6 +10,9 @@ public final class TextMachines {
     private static final int LEAST_LETTERS = 2;
     private static final int MOST_LETTERS = 4;
     private static final int MOST_STATES = 40;
+    /** Any STATE fits into so many bits of a number. */
+    private static final int STATE_BITS = 6;
+    private static final int STATE_MASK = 63;
     private static final int MOST_MACHINES = 60;
     private static final int MOST_PLACES = 200;
     private static final int MOST_IN_TEXT = 100;
@@ -48,7 +51,7 @@ public final class TextMachines {
         made = new Machine(this.letters);
         condition = new Machine(this.letters);
         sets = new SetsRule(this.letters);
-        texts = new TextRule(collected);
+        texts = new TextRule();
         numbers = new NumeralsRule(this.letters);
         comparison = new Comparison(this.letters);
         tally = new Tally(this.letters);
@@ -84,7 +87,7 @@ public final class TextMachines {
         }
         came = 0;
         if (what == 0) {
-            texts.look(IS);
+            texts.look(IS, collected);
             return places.explore(texts) ? keepLeast() : LARGE;
         }
         made.begin(1);
@@ -196,7 +199,7 @@ public final class TextMachines {
             return BAD;
         }
         came = 0;
-        texts.look(op);
+        texts.look(op, collected);
         if (!places.explore(texts) || !places.shrinkTo(condition)) {
             return LARGE;
         }
@@ -378,6 +381,11 @@ public final class TextMachines {
             }
         }
 
+        void copy(Row other) {
+            size = other.size;
+            System.arraycopy(other.items, 0, items, 0, items.length);
+        }
+
         int at(int i) {
             return i >= 0 && i < size ? items[i] : NONE;
         }
@@ -394,13 +402,13 @@ public final class TextMachines {
     /** A least machine whose states are numbered as they are come to. */
     private static final class Machine {
         private final int letters;
-        private final int[] steps;
+        /** Of each state the next ones by all letters in one number, to spare room: 4 times 6 bits. */
+        private final int[] steps = new int[MOST_STATES];
         private int size = 1;
         private long ends = 0L;
 
         Machine(int letters) {
             this.letters = letters;
-            steps = new int[MOST_STATES * MOST_LETTERS];
         }
 
         /** Takes so many states, 1 .. 40, all of them without an end and leading to 0. */
@@ -420,7 +428,8 @@ public final class TextMachines {
 
         void setStep(int state, int letter, int to) {
             if (hasStep(state, letter) && to >= 0 && to < size) {
-                steps[state * MOST_LETTERS + letter] = to;
+                int at = letter * STATE_BITS;
+                steps[state] = steps[state] & ~(STATE_MASK << at) | to << at;
             }
         }
 
@@ -433,7 +442,7 @@ public final class TextMachines {
         }
 
         int step(int state, int letter) {
-            return hasStep(state, letter) ? steps[state * MOST_LETTERS + letter] : 0;
+            return hasStep(state, letter) ? steps[state] >>> letter * STATE_BITS & STATE_MASK : 0;
         }
 
         boolean isEnd(int state) {
@@ -444,7 +453,7 @@ public final class TextMachines {
             if (size != other.size || ends != other.ends) {
                 return false;
             }
-            for (int i = 0; i < size * MOST_LETTERS; i++) {
+            for (int i = 0; i < size; i++) {
                 if (steps[i] != other.steps[i]) {
                     return false;
                 }
@@ -549,9 +558,6 @@ public final class TextMachines {
 
     /** A place is a state of each machine. */
     private static final class PairRule extends Rule {
-        private static final int SHIFT = 6;
-        private static final long MASK = 63L;
-
         private final int how;
         private final Machine a;
         private final Machine b;
@@ -567,12 +573,12 @@ public final class TextMachines {
         }
 
         long after(long place, int letter) {
-            long inA = a.step((int) (place >>> SHIFT), letter);
-            return inA << SHIFT | b.step((int) (place & MASK), letter);
+            long inA = a.step((int) (place >>> STATE_BITS), letter);
+            return inA << STATE_BITS | b.step((int) (place & STATE_MASK), letter);
         }
 
         boolean isLast(long place) {
-            return isWanted(how, a.isEnd((int) (place >>> SHIFT)), b.isEnd((int) (place & MASK)));
+            return isWanted(how, a.isEnd((int) (place >>> STATE_BITS)), b.isEnd((int) (place & STATE_MASK)));
         }
     }
 
@@ -790,18 +796,15 @@ public final class TextMachines {
     private static final class TextRule extends Rule {
         private static final int MISSED = MOST_IN_TEXT + 1;
 
-        private final Row text;
+        private final Row text = new Row();
         /** How many letters of the text those met still end with, if not all of them. */
         private final int[] fallback = new int[MOST_IN_TEXT + 1];
         private int op = IS;
 
-        TextRule(Row text) {
-            this.text = text;
-        }
-
         /** The text is to be looked for as told; none or one of its letters fall back to none. */
-        void look(int how) {
+        void look(int how, Row wanted) {
             op = how;
+            text.copy(wanted);
             for (int met = 1; met < text.size; met++) {
                 fallback[met + 1] = metAnywhere(fallback[met], text.at(met));
             }
@@ -935,8 +938,6 @@ public final class TextMachines {
      * stand in the order in which they are come to, too.
      */
     private static final class Places {
-        private static final int KIND_BITS = 6;
-
         private final int letters;
         private final long[] found = new long[MOST_PLACES];
         private final int[] leads = new int[MOST_PLACES * MOST_LETTERS];
@@ -1040,7 +1041,7 @@ public final class TextMachines {
         private int markOf(int p) {
             int mark = kinds[p];
             for (int letter = 0; letter < letters; letter++) {
-                mark = mark << KIND_BITS | kindAfter(p, letter);
+                mark = mark << STATE_BITS | kindAfter(p, letter);
             }
             return mark;
         }
